@@ -1,5 +1,3 @@
-import java.util.Arrays;
-
 /**
  * A loader of images in the 32-bit executable and linking format, into a space of pages with
  * rights and a limited number of frames. The document's promises say what each call answers.
@@ -346,7 +344,9 @@ public final class ImageLoader {
             this.frames = frames;
             bytes = new byte[ADDRESSES];
             pageRights = new int[PAGES];
-            Arrays.fill(pageRights, NONE);
+            for (int page = 0; page < PAGES; page++) {
+                pageRights[page] = NONE;
+            }
             mapped = 0;
         }
 
@@ -397,8 +397,14 @@ public final class ImageLoader {
                 if (isPage(page) && rightsOf(page) == NONE) {
                     setRights(page, to);
                     mapped++;
-                    Arrays.fill(bytes, page * PAGE_BYTES, (page + 1) * PAGE_BYTES, (byte) 0);
+                    clear(page);
                 }
+            }
+        }
+
+        private void clear(int page) {
+            for (int i = 0; i < PAGE_BYTES; i++) {
+                setByte(page * PAGE_BYTES + i, 0);
             }
         }
 
@@ -470,16 +476,6 @@ public final class ImageLoader {
         private long align;
         private int flags;
 
-        Segment() {
-            offset = 0;
-            address = 0;
-            start = 0;
-            filed = 0;
-            held = 0;
-            align = 0;
-            flags = 0;
-        }
-
         void take(Tape tape, int t, int base) {
             offset = tape.word(t + 4);
             address = tape.word(t + 8);
@@ -506,7 +502,7 @@ public final class ImageLoader {
             return place >= start && place < start + held;
         }
 
-        /** Asked only of a segment in the space; one without held bytes ends before it begins. */
+        /** Asked only of a segment in the space; one without held bytes ends before all pages. */
         int firstPage() {
             return held == 0 ? 0 : (int) (start / PAGE_BYTES);
         }
@@ -520,8 +516,7 @@ public final class ImageLoader {
         }
 
         boolean sharesPageWith(Segment other) {
-            return held > 0 && other.held > 0
-                && firstPage() <= other.lastPage() && other.firstPage() <= lastPage();
+            return firstPage() <= other.lastPage() && other.firstPage() <= lastPage();
         }
 
         void lay(Tape tape, Space space) {

@@ -19,6 +19,7 @@ public final class RelocationTest {
         acrossSegments();
         faultLeavesAll();
         lastDynamicHead();
+        nothingIsKept();
         Check.end();
     }
 
@@ -162,7 +163,7 @@ public final class RelocationTest {
         image.faulty("the fifth is too many", 256, 20, 4);
         TestImage table = image(3, 1);
         pair(table, 0, 7, 188);
-        table.sound("where of the base alone is a fault with 0 held", 0, 1);
+        table.sound("the last place in the first segment", 0, 1);
     }
 
     private static void otherSorts() {
@@ -275,6 +276,38 @@ public final class RelocationTest {
         Check.same("mended", x.load(512), 4);
         Check.same("frames were not used up", x.count(0), 5);
         Check.same("relocated once", x.read(512 + TARGET, 4), 517);
+    }
+
+    /** Each load tells its own pairs: what an earlier one told does not count. */
+    private static void nothingIsKept() {
+        for (int missing = 0; missing < 5; missing++) {
+            ImageLoader x = new ImageLoader(64);
+            TestImage image = relocation(image(3, 1), 0, TARGET, 0x101, 0);
+            if (missing == 0) {
+                // The table is elsewhere at first, and faulty at 0, where it is if it is not told.
+                pair(image, 0, 7, 1024);
+                relocation(image, 0, 197, 3, 0);
+            }
+            image.onto(x);
+            Check.same("all pairs", x.load(0), 1);
+            x.unmap(0, 64);
+            int[] keys = {7, 8, 9, 6, 11};
+            pair(image, missing, 5, 5);
+            image.onto(x);
+            int[] due = {-30, 0, -29, -33, -32};
+            Check.same("without " + keys[missing], x.load(0), due[missing]);
+        }
+        ImageLoader x = image(3, 2).on(64);
+        Check.same("two", x.load(0), 2);
+        x.unmap(0, 64);
+        TestImage.plain(8).onto(x);
+        Check.same("none without a head of kind 2", x.load(0), 0);
+        TestImage image = image(3, 1);
+        pair(image, 0, 7, 1024);
+        image.onto(x);
+        Check.same("a table in the third head", x.load(2048), 1);
+        image.head(2, 0, 0, 0, 0, 0, 0, 0).onto(x);
+        Check.same("which is no segment now", x.load(6144), -30);
     }
 
     private static void lastDynamicHead() {

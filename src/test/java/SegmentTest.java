@@ -12,6 +12,8 @@ public final class SegmentTest {
         entry();
         order();
         laying();
+        behindTheTable();
+        nothingIsKept();
         Check.end();
     }
 
@@ -89,6 +91,9 @@ public final class SegmentTest {
         two(0, 256, 256, 4).sound("pages side by side", 0, 0);
         two(0, 257, 256, 4).faulty("the second meets the first", 0, 14, 92);
         two(0, 100, 100, 4).faulty("the second meets the first", 0, 14, 92);
+        two(0, 1, 5, 1).faulty("one byte each", 0, 14, 92);
+        two(255, 1, 256, 1).sound("one byte each in two pages", 0, 0);
+        two(256, 1, 255, 1).sound("one byte each in two pages", 0, 0);
         two(512, 4, 0, 512).sound("below the first", 0, 0);
         two(512, 4, 0, 513).faulty("the second meets the first", 0, 14, 92);
         two(1024, 512, 0, 4096).faulty("the second meets the first", 0, 14, 92);
@@ -270,6 +275,45 @@ public final class SegmentTest {
         Check.same("below it", x.read(1024 + 249, 1), 0);
         Check.same("the last filed byte", x.read(1024 + 879, 1), 239);
         Check.same("above it", x.read(1024 + 880, 1), 0);
+    }
+
+    private static void behindTheTable() {
+        TestImage eight = new TestImage(3, 1792, 8, 308);
+        for (int i = 0; i < 8; i++) {
+            eight.head(i, 1, i, 256 * i, 1, 256, 7, 0);
+        }
+        ImageLoader all = eight.on(8);
+        Check.same("eight segments", all.load(2048), 0);
+        Check.same("eight pages", all.told(2), 8);
+        Check.same("the eighth one's entry", all.told(1), 3840);
+        Check.same("the fourth one's byte", all.read(2048 + 768, 1), 70);
+        TestImage image = two(0, 256, 512, 256).half(44, 1);
+        ImageLoader x = image.on(64);
+        Check.same("one head alone", x.load(0), 0);
+        Check.same("one page", x.count(0), 1);
+        image.head(1, 1, 9000, 0, 9, 8, 7, 3).sound("a faulty one behind the table", 0, 0);
+        image.head(1, 2, 9000, 0, 9, 8, 7, 3).sound("a faulty one behind the table", 0, 0);
+    }
+
+    /** The second image must not see the first one's second segment. */
+    private static void nothingIsKept() {
+        ImageLoader x = two(0, 256, 512, 256).on(64);
+        Check.same("two segments", x.load(0), 0);
+        x.unmap(0, 64);
+        one(0, 0, 0, 256, 7, 0).onto(x);
+        Check.same("one segment", x.load(0), 0);
+        Check.same("one page", x.count(0), 1);
+        Check.same("told", x.told(2), 1);
+        x.unmap(0, 64);
+        one(0, 0, 0, 256, 7, 0).word(24, 512).onto(x);
+        Check.same("no entry there", x.load(0), -28);
+        two(0, 256, 512, 256).onto(x);
+        Check.same("two segments", x.load(0), 0);
+        x.unmap(0, 1);
+        one(0, 0, 0, 256, 7, 0).word(24, 512).onto(x);
+        Check.same("no entry there", x.load(0), -28);
+        Check.same("its place", x.told(0), 24);
+        Check.same("one page", x.count(0), 1);
     }
 
     private static int dueSum() {

@@ -30,6 +30,11 @@ public final class SpaceTest {
         Check.same("the next half", x.read(1030, 2), 0x8483);
         Check.same("a word has no sign", x.read(1028, 4), 0x84838281L);
         Check.same("to be fetched", x.fetch(1028), 0x84838281L);
+        x.write(1032, 4, -1);
+        x.write(1024, 4, -1);
+        Check.same("a word among others", x.read(1028, 4), 0x84838281L);
+        Check.same("to be fetched among others", x.fetch(1028), 0x84838281L);
+        Check.same("a half among others", x.read(1028, 2), 0x8281);
         int[] sizes = {-4, -1, 0, 3, 5, 8, Integer.MIN_VALUE, Integer.MAX_VALUE};
         for (int n : sizes) {
             Check.same("read of " + n, x.read(1028, n), -4);
@@ -188,6 +193,11 @@ public final class SpaceTest {
         int[] last = {0, 0, 0, 0, 17, 1, 10};
         for (int what = 0; what < last.length; what++) {
             Check.same("count(" + what + ") at last", x.count(what), last[what]);
+        }
+        TestImage.plain(256).onto(x);
+        Check.same("page 0", x.load(0), 0);
+        for (int what = 0; what < 4; what++) {
+            Check.same("count(" + what + ") of page 0", x.count(what), 1);
         }
         int[] bad = {-1, 7, 8, Integer.MIN_VALUE, Integer.MAX_VALUE};
         for (int what : bad) {

@@ -69,8 +69,8 @@ public final class StackTest {
     }
 
     private static void empties() {
-        String[] texts = {"\0", "\0\0", "a\0\0", "\0a", "\0\0\0b\0", "a\0\0\0\0\0"};
-        int[] counts = {1, 2, 2, 2, 4, 5};
+        String[] texts = {"a", "ab", "\0", "\0\0", "a\0\0", "\0a", "\0\0\0b\0", "a\0\0\0\0\0"};
+        int[] counts = {1, 1, 1, 2, 2, 2, 4, 5};
         for (int i = 0; i < texts.length; i++) {
             ImageLoader x = new ImageLoader(64);
             text(x, texts[i]);
@@ -132,6 +132,13 @@ public final class StackTest {
         x.unmap(63, 1);
         Check.same("one of two is there", x.stack(2), ImageLoader.REFUSED);
         Check.same("one of one is not", x.stack(1), 16352);
+        for (int page = 62; page < 64; page++) {
+            ImageLoader z = TestImage.plain(256).on(64);
+            Check.same("a page", z.load(256 * page), 0);
+            z.cut(0);
+            Check.same("two with page " + page, z.stack(2), ImageLoader.REFUSED);
+            Check.same("one with page " + page, z.stack(1), page == 63 ? ImageLoader.REFUSED : 16368);
+        }
         ImageLoader y = TestImage.plain(256).on(64);
         Check.same("a page", y.load(15360), 0);
         Check.same("it is the lowest of four", y.stack(4), ImageLoader.REFUSED);

@@ -106,6 +106,15 @@ public final class TapeTest {
         for (int i = 0; i < due.length; i++) {
             Check.same("byte " + i + " after the BAD ones", x.peek(i), due[i]);
         }
+        int[][] middle = {{0, 1}, {0, 2}, {0, 4}, {2, 1}, {2, 2}, {3, 4}};
+        for (int[] row : middle) {
+            ImageLoader y = new ImageLoader(4);
+            y.add(-1, 8);
+            Check.same("poke of " + row[1] + " at " + row[0], y.poke(row[0], row[1], 0), 0);
+            for (int i = 0; i < 8; i++) {
+                Check.same("byte " + i, y.peek(i), i >= row[0] && i < row[0] + row[1] ? 0 : 255);
+            }
+        }
         Check.same("poke to the end", x.poke(4, 4, 0), 0);
         Check.same("poke leaves the size", x.count(4), 8);
         x.cut(6);
