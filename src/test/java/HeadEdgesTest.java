@@ -24,6 +24,7 @@ public final class HeadEdgesTest {
         entryAndBase();
         rights();
         pagesLaid();
+        pagesOfOthers();
         bytesLaid();
         nothingHeld();
         Check.end();
@@ -363,11 +364,11 @@ public final class HeadEdgesTest {
         }
         one(0, 0, 0, 16384, 1, 0).word(24, 16383).sound("the highest address", 0, 0);
         faulty("none held there", two(0, 4, 512, 0).word(24, 512), 18, 24);
-        Twin.faulty("a page of another image", Twin.used(64, one(0, 0, 4, 4, 7, 0).word(24, 10244)), 0, 18, 24);
-        ImageLoader before = two(0, 100, 512, 100).on(64);
-        Check.same("two segments", before.load(0), 0);
-        one(0, 0, 0, 100, 7, 0).word(24, 512).onto(before);
-        Check.same("an image before had a second one there", before.load(2048), -28);
+        int[] ofAnother = {10244, 10495, 10496, 10500, 10752, 10760};
+        for (int entry : ofAnother) {
+            Twin.faulty("another image's", Twin.used(64, one(0, 0, 4, 4, 7, 0).word(24, entry)), 0, 18, 24);
+            Twin.faulty("another image's", Twin.used(64, two(0, 4, 512, 4).word(24, entry)), 0, 18, 24);
+        }
     }
 
     private static void entryRight() {
@@ -430,6 +431,21 @@ public final class HeadEdgesTest {
                 Check.same("page " + page, x.rights(page), page >= first && page <= last ? 5 : NONE);
             }
         }
+    }
+
+    /** Segments of images before are not its own. */
+    private static void pagesOfOthers() {
+        Check.sentence("of the held bytes of its segments");
+        ImageLoader x = Twin.used(64, one(0, 0, 4, 4, 7, 0)).made();
+        x.unmap(0, 64);
+        Check.same("one segment, behind an image of three", x.load(0), 0);
+        Check.same("one page", x.count(0), 1);
+        Check.same("told", x.told(2), 1);
+        x.unmap(0, 64);
+        two(0, 4, 512, 4).onto(x);
+        Check.same("two segments", x.load(0), 0);
+        Check.same("two pages", x.count(0), 2);
+        Check.same("told", x.told(2), 2);
     }
 
     private static void bytesLaid() {

@@ -392,12 +392,13 @@ public final class RelocationEdgesTest {
             Twin.faulty("by another image's, from " + place + " on", Twin.used(64, far), 9984, 20, 0);
         }
         Check.same("by its own", Twin.used(64, far.words(148, 7, 244)).made().load(9984), 1);
-        ImageLoader before = pair(image(1), PLACE, 7, SECOND).on(64);
-        Check.same("by its second segment", before.load(0), 1);
-        pair(image(1), PLACE, 7, SECOND).word(116, 4).onto(before);
-        Check.same("which is none now", before.load(2048), -30);
-        pair(image(1), PLACE, 7, SECOND).word(116, 4).word(60, SECOND).word(24, SECOND).word(FILED, SECOND).onto(before);
-        Check.same("the first one lies there", before.load(4096), 1);
+        int[] pages = {40, 41, 42};
+        for (int page : pages) {
+            far.words(148, 7, 256 * page, 8, 12, 9, 12);
+            Twin.faulty("by page " + page, Twin.used(64, far), 0, 20, 0);
+            TestImage two = pair(image(1), PLACE, 7, 256 * page);
+            Twin.faulty("by page " + page + ", of two segments", Twin.used(64, two), 0, 20, 0);
+        }
         TestImage rest = new TestImage(3, 0, 2, 188).head(0, 1, 0, 0, 0, 100, 7, 0).head(1, 2, 148, 0, 40, 0, 0, 0);
         sound("up to its last held byte", rest.words(148, 7, 88, 8, 12, 9, 12), 1);
         faulty("in its page, but not held", rest.words(148, 7, 89, 8, 12, 9, 12), 20, 0);

@@ -42,12 +42,12 @@ final class Twin {
     }
 
     /**
-     * Pages 40 to 42 are of an image, with rights of all sorts, page 63 is a stack, a load was
-     * faulty at place 60. Four frames are used.
+     * Pages 40 to 42 are three segments of an image, with rights of all sorts, page 63 is a stack,
+     * a load was faulty at place 60. Four frames are used.
      */
     static State used(int frames, TestImage tape) {
         return () -> {
-            ImageLoader x = TestImage.plain(600).on(frames);
+            ImageLoader x = three().on(frames);
             Check.same("the image that is there", x.load(10240), 0);
             x.write(10500, 4, 0x81828384);
             Check.same("it again", x.load(10240), -24);
@@ -59,6 +59,12 @@ final class Twin {
             tape.onto(x);
             return x;
         };
+    }
+
+    private static TestImage three() {
+        TestImage image = new TestImage(3, 0, 3, 156).words(148, 0x11223344, 0x55667788);
+        image.head(0, 1, 148, 0, 8, 256, 7, 1).head(1, 1, 0, 256, 0, 256, 7, 1);
+        return image.head(2, 1, 0, 512, 0, 88, 7, 1);
     }
 
     /** A call that is BAD or REFUSED, or one that only tells. */
